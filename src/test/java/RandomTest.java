@@ -13,6 +13,14 @@ public final class RandomTest {
     private static final String KEYS = "abcdef ~{}#^/.|:>!-=$*<0123456789";
     private static final int CALLS = 512;
 
+    /** What a run is bent on; other runs take all alike. */
+    private static final int FEW_NAMES = 1;
+    private static final int HEIRS = 2;
+    private static final int FEW_FORMS = 3;
+    private static final int ROUNDS = 4;
+    private static final int LONG_WORDS = 5;
+    private static final int KINDS = 6;
+
     private final Random random;
     private final int kind;
     private final Blankform desk = new Blankform();
@@ -22,7 +30,7 @@ public final class RandomTest {
 
     private RandomTest(long seed) {
         random = new Random(seed);
-        kind = (int) (seed % 4);
+        kind = (int) (seed % KINDS);
     }
 
     public static void main(String[] args) throws Exception {
@@ -47,6 +55,15 @@ public final class RandomTest {
     }
 
     private void run() throws Exception {
+        for (int form = 0; form < below(7) && !isWrong; form++) {
+            type(form(3, 60));
+            ask("form", form);
+            ask("row", form, -1, -1, 0);
+            for (int k = 0; k < below(9); k++) {
+                type(words());
+                ask("row", form, -1, -1, 1);
+            }
+        }
         while (told.size() < CALLS && !isWrong) {
             step();
         }
@@ -74,7 +91,7 @@ public final class RandomTest {
                 break;
             case 4:
                 type(chance(50) ? words() : form(2, 60));
-                ask(chance(50) ? "fault" : "fault", chance(50));
+                ask("fault", chance(50));
                 ask("escape");
                 ask("unescape");
                 ask("filter", chance(98) ? below(10) : below(2) * 11 - 1);
@@ -119,7 +136,8 @@ public final class RandomTest {
             case 13:
             case 14:
                 ask("keep", aForm());
-                if (chance(4)) {
+                ask("keep", aForm());
+                if (chance(6)) {
                     ask("burn");
                 }
                 break;
@@ -153,11 +171,11 @@ public final class RandomTest {
     }
 
     private int aForm() {
-        return chance(97) ? below(kind == 3 ? 3 : 6) : below(2) * 7 - 1;
+        return chance(97) ? below(kind == FEW_FORMS || kind == ROUNDS ? 3 : 6) : below(2) * 7 - 1;
     }
 
     private int name() {
-        return below(kind == 1 ? 2 : 6);
+        return below(kind == FEW_NAMES || kind == ROUNDS ? 2 : 6);
     }
 
     private void path(String call, Object... more) throws Exception {
@@ -181,10 +199,10 @@ public final class RandomTest {
     private void rows() throws Exception {
         int a = name();
         ask("row", a, -1, -1, 0);
-        int many = chance(30) ? 9 : below(4);
+        int many = chance(30) || kind == ROUNDS ? 9 : below(4);
         for (int k = 0; k < many; k++) {
             int what = 1 + below(3);
-            if (what == 1 && chance(60)) {
+            if (what == 1 && chance(kind == ROUNDS ? 5 : 60)) {
                 type(words());
             }
             ask("row", a, -1, -1, what);
@@ -221,7 +239,7 @@ public final class RandomTest {
     private String words() {
         String keys = chance(70) ? "abcdef  ~<012" : KEYS;
         StringBuilder out = new StringBuilder();
-        int length = chance(15) ? 60 : chance(10) ? 0 : below(9);
+        int length = chance(kind == LONG_WORDS ? 60 : 15) ? 60 : chance(10) ? 0 : below(9);
         for (int k = 0; k < length; k++) {
             out.append(keys.charAt(below(keys.length())));
         }
@@ -257,7 +275,10 @@ public final class RandomTest {
     }
 
     private String piece(int deep, int room) {
-        switch (below(kind == 2 ? 9 : 12)) {
+        if (kind == ROUNDS && deep > 0 && chance(50)) {
+            return tag("#" + path()) + form(deep - 1, room - 9) + tag("/");
+        }
+        switch (below(kind == HEIRS ? 8 : 12)) {
             case 0:
             case 1:
                 if (deep > 0) {
@@ -282,7 +303,7 @@ public final class RandomTest {
     }
 
     private char letter() {
-        return "abcdef".charAt(below(kind == 3 ? 3 : 6));
+        return "abcdef".charAt(below(kind == FEW_FORMS || kind == ROUNDS ? 3 : 6));
     }
 
     private String tag(String inside) {
