@@ -1,5 +1,3 @@
-import java.util.Arrays;
-
 /**
  * A desk at which letters are filled from forms. The words in capitals are those of the document;
  * README.md tells how the parts of this file work together.
@@ -48,7 +46,7 @@ public final class Blankform {
         typed = new Signs(TYPED_ROOM);
         data = new Data();
         shelf = new Shelf();
-        reader = new Reader();
+        reader = new Reader(shelf.at(Shelf.TYPED));
         filler = new Filler(shelf, data);
         match = new Match();
         work = new Work();
@@ -802,8 +800,15 @@ public final class Blankform {
             return found == some.length;
         }
 
+        private char[] copied() {
+            int count = Math.max(0, Math.min(length, all.length));
+            char[] signs = new char[count];
+            System.arraycopy(all, 0, signs, 0, count);
+            return signs;
+        }
+
         private String told() {
-            return new String(Arrays.copyOf(all, Math.max(length, 0)));
+            return new String(copied());
         }
     }
 
@@ -833,13 +838,13 @@ public final class Blankform {
         }
 
         private static Value ofText(Signs text) {
-            return new Value(TEXT, 0, Arrays.copyOf(text.all, Math.max(text.length, 0)), 0);
+            return new Value(TEXT, 0, text.copied(), 0);
         }
 
         private static Value ofNumber(int number) {
             Signs digits = new Signs(12);
             digits.putNumber(number);
-            return new Value(NUMBER, number, Arrays.copyOf(digits.all, Math.max(digits.length, 0)), 0);
+            return new Value(NUMBER, number, digits.copied(), 0);
         }
 
         private static Value ofTruth(boolean is) {
@@ -1217,13 +1222,13 @@ public final class Blankform {
         private int openCount;
         private int filterCount;
 
-        private Reader() {
+        private Reader(Form first) {
             none = new Piece();
             open = new Piece[OPEN_ROOM];
             for (int k = 0; k < open.length; k++) {
                 open[k] = none;
             }
-            form = new Form();
+            form = first;
             piece = none;
         }
 
