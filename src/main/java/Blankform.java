@@ -256,7 +256,6 @@ public final class Blankform {
         spare.put((char) ('0' + filter));
         work.begin(Value.ofText(typed));
         work.change(spare, 0, spare.length);
-        work.flatten();
         return work.text.told();
     }
 
