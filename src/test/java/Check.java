@@ -1,3 +1,4 @@
+import java.util.Arrays;
 import java.util.Objects;
 
 /** What the tests have in common: they count what is wrong, and end with exit code 1 if anything was. */
@@ -14,8 +15,12 @@ final class Check {
         checked++;
         if (!Objects.equals(got, due)) {
             wrong++;
-            System.out.println(call + " answered " + got + ", due is " + due);
+            System.out.println(Sentence.ahead() + call + " answered " + got + ", due is " + due);
         }
+    }
+
+    static int checked() {
+        return checked;
     }
 
     /** The call throws just this exception, and nothing is changed. */
@@ -33,14 +38,19 @@ final class Check {
         due(call + ", typed() after that", desk.typed(), typed);
     }
 
-    /** TYPED is this text from now on. */
+    /** TYPED is this text from now on; six signs a call, as an object is used for 512 calls alone. */
     static Blankform type(Blankform desk, String text) {
-        desk.say(34, -1, -1, -1, -1, -1);
+        int[] codes = new int[(text.length() / 6 + 1) * 6];
+        Arrays.fill(codes, -1);
+        codes[0] = 34;
         for (int k = 0; k < text.length(); k++) {
-            if (KEYS.indexOf(text.charAt(k)) < 0) {
+            codes[k + 1] = KEYS.indexOf(text.charAt(k));
+            if (codes[k + 1] < 0) {
                 throw new AssertionError("there is no key for " + text.charAt(k));
             }
-            desk.say(KEYS.indexOf(text.charAt(k)), -1, -1, -1, -1, -1);
+        }
+        for (int k = 0; k < codes.length; k += 6) {
+            desk.say(codes[k], codes[k + 1], codes[k + 2], codes[k + 3], codes[k + 4], codes[k + 5]);
         }
         return desk;
     }

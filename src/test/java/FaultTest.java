@@ -13,54 +13,53 @@ public final class FaultTest {
     }
 
     public static void main(String[] args) {
-        Blankform desk = new Blankform();
         Oracle oracle = new Oracle();
-        behind(desk, oracle, "{", 3);
-        behind(desk, oracle, "{a|3", 2);
-        behind(desk, oracle, "{a|3:a", 2);
-        behind(desk, oracle, "{#a}", 3);
-        behind(desk, oracle, "{$a}{", 2);
-        behind(desk, oracle, "{#a}{^}{", 2);
-        behind(desk, oracle, "{#a}{$b}{", 2);
-        behind(desk, oracle, "{$a}{#b}{", 2);
-        behind(desk, oracle, "{#a}{#a}{#a}{#a}{", 2);
-        behind(desk, oracle, "{#a}{#a}{#a}{$a}{", 2);
-        behind(desk, oracle, "{a|0|1|2|3", 2);
-        behind(desk, oracle, "{=a.b", 2);
-        behind(desk, oracle, "{-=.", 2);
-        behind(desk, oracle, "{$a}{/}{$b}{/}{$c}{/}{$d}{/}{$e}{/}{$f}{/}{", 2);
+        behind(oracle, "{", 3);
+        behind(oracle, "{a|3", 2);
+        behind(oracle, "{a|3:a", 2);
+        behind(oracle, "{#a}", 3);
+        behind(oracle, "{$a}{", 2);
+        behind(oracle, "{#a}{^}{", 2);
+        behind(oracle, "{#a}{$b}{", 2);
+        behind(oracle, "{$a}{#b}{", 2);
+        behind(oracle, "{#a}{#a}{#a}{#a}{", 2);
+        behind(oracle, "{#a}{#a}{#a}{$a}{", 2);
+        behind(oracle, "{a|0|1|2|3", 2);
+        behind(oracle, "{=a.b", 2);
+        behind(oracle, "{-=.", 2);
+        behind(oracle, "{$a}{/}{$b}{/}{$c}{/}{$d}{/}{$e}{/}{$f}{/}{", 2);
         Random random = new Random(41);
         for (int k = 0; k < 3000; k++) {
-            walk(desk, oracle, random);
+            walk(oracle, random);
         }
         Check.end("FaultTest");
     }
 
-    private static void behind(Blankform desk, Oracle oracle, String begin, int more) {
-        compare(desk, oracle, begin);
+    private static void behind(Oracle oracle, String begin, int more) {
+        compare(oracle, begin);
         for (int k = 0; more > 0 && k < SIGNS.length(); k++) {
-            behind(desk, oracle, begin + SIGNS.charAt(k), more - 1);
+            behind(oracle, begin + SIGNS.charAt(k), more - 1);
         }
     }
 
     /** Types signs that can go on, and now and then any sign. */
-    private static void walk(Blankform desk, Oracle oracle, Random random) {
+    private static void walk(Oracle oracle, Random random) {
         StringBuilder text = new StringBuilder();
         int length = 5 + random.nextInt(56);
         for (int tries = 0; text.length() < length && tries < 400; tries++) {
             boolean isTag = text.lastIndexOf("{") > text.lastIndexOf("}");
             text.append(!isTag && random.nextInt(3) > 0 ? '{' : KEYS.charAt(random.nextInt(KEYS.length())));
-            Check.type(desk, text.toString());
+            Blankform desk = Check.type(Desks.used(), text.toString());
             int fault = desk.fault(false);
             if (fault != -1 && fault < text.length() && random.nextInt(150) > 0) {
                 text.setLength(text.length() - 1);
             }
         }
-        compare(desk, oracle, text.toString());
+        compare(oracle, text.toString());
     }
 
-    private static void compare(Blankform desk, Oracle oracle, String text) {
-        Check.type(desk, text);
+    private static void compare(Oracle oracle, String text) {
+        Blankform desk = Check.type(Desks.used(), text);
         oracle.say(34, -1, -1, -1, -1, -1);
         for (int k = 0; k < text.length(); k++) {
             oracle.say(KEYS.indexOf(text.charAt(k)), -1, -1, -1, -1, -1);

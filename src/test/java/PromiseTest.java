@@ -877,6 +877,26 @@ public final class PromiseTest {
     private static void digest() {
         Blankform x = new Blankform();
         Check.due("of a new one", x.digest(), sum(x));
+        x = busy();
+        Check.due("of more", x.digest(), sum(x));
+        x = busy();
+        x.keep(2);
+        Check.due("of one letter", x.digest(), sum(x));
+        x.keep(0);
+        x.strict(true);
+        Check.type(x, "~{b}{<");
+        Check.due("of two letters", x.digest(), sum(x));
+        x = busy();
+        x.keep(2);
+        x.keep(0);
+        x.keep(0);
+        Check.type(x, "<{b}");
+        Check.due("of three letters", x.digest(), sum(x));
+        Check.due("asking changes nothing", x.digest(), x.digest());
+    }
+
+    private static Blankform busy() {
+        Blankform x = new Blankform();
         Check.form(x, 0, "{$a}{a}{/}");
         Check.form(x, 2, "{$a}<{*}{b|3:c}{/}");
         x.heir(2, 0);
@@ -884,17 +904,7 @@ public final class PromiseTest {
         Check.row(x, 3, "a", "b");
         x.knock();
         x.blank();
-        Check.due("of more", x.digest(), sum(x));
-        x.keep(2);
-        Check.due("of one letter", x.digest(), sum(x));
-        x.keep(0);
-        x.strict(true);
-        Check.type(x, "~{b}{<");
-        Check.due("of two letters", x.digest(), sum(x));
-        x.keep(0);
-        Check.type(x, "<{b}");
-        Check.due("of three letters", x.digest(), sum(x));
-        Check.due("asking changes nothing", x.digest(), sum(x));
+        return x;
     }
 
     private static long sum(Blankform x) {

@@ -64,11 +64,11 @@ public final class RandomTest {
                 ask("row", form, -1, -1, 1);
             }
         }
-        while (told.size() < CALLS && !isWrong) {
+        while (told.size() < CALLS - 1 && !isWrong) {
             step();
         }
         if (!isWrong) {
-            ask("digest");
+            compare("digest");
         }
     }
 
@@ -338,7 +338,14 @@ public final class RandomTest {
         return out.toString();
     }
 
+    /** The last one of all calls is left for digest(). */
     private void ask(String call, Object... given) throws Exception {
+        if (told.size() < CALLS - 1) {
+            compare(call, given);
+        }
+    }
+
+    private void compare(String call, Object... given) throws Exception {
         Object got = answer(desk, call, given);
         Object due = answer(oracle, call, given);
         told.add(call + List.of(given) + " answered " + got + ", due is " + due);
