@@ -1001,7 +1001,6 @@ public final class Blankform {
     /** A TEXT or a TAG of a FORM; the object is used again for what is read next. */
     private static final class Piece {
 
-        private static final int NO_PIECE = 0;
         private static final int TEXT = 1;
         private static final int COMMENT = 2;
         private static final int SECTION = 3;
@@ -1019,6 +1018,7 @@ public final class Blankform {
         private static final int FIRST = 8;
         private static final int LAST = 9;
 
+        /** One of the kinds above; 0 for what stands where there is no piece. */
         private int kind;
         /** Where the signs of a TEXT begin, and where they have ended. */
         private int from;

@@ -64,6 +64,9 @@ final class EdgesOfFilters {
         for (Blankform x : new Blankform[] {new Blankform(), texts.length > 4 ? new Blankform() : Desks.used()}) {
             Check.row(x, 0, texts);
             Check.due(String.join("+", texts) + " behind " + filters, Check.given(x, "{=a" + filters + "}"), due);
+            for (int k = 0; k < 2 && texts.length <= 4; k++) {
+                Check.due("without filters", Check.given(x, "{=a}{b}"), String.join("", texts));
+            }
         }
     }
 

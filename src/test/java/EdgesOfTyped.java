@@ -508,7 +508,85 @@ final class EdgesOfTyped {
         stops("{!" + "a".repeat(57) + "{", 59);
         stops("a".repeat(57) + "{a|", 60);
         stops("a".repeat(57) + "{$a", 60);
-        stops("{", 1);
+        eachKeyInTexts();
+        eachKeyInPaths();
+        eachKeyInFilters();
+    }
+
+    /** Just these keys can stand behind the text, in some FORM text. */
+    private static void goesOn(String text, String keys) {
+        for (char key : KEYS.toCharArray()) {
+            int fault = Check.type(Desks.used(), text + key).fault(false);
+            boolean isKey = keys.indexOf(key) >= 0;
+            Check.due("\"" + key + "\" is refused behind " + text, fault == text.length(), !isKey);
+            Check.due("what is ahead of it is not", fault < 0 || fault >= text.length(), true);
+        }
+    }
+
+    private static void eachKeyInTexts() {
+        for (String text : new String[] {"", "a", "~ ", "{!}", "{!}a", "{#a}", "{#a}{^}", "{$a}{#.}{$b}{#0}", "a{b}"}) {
+            goesOn(text, KEYS_OF_TEXT + "{");
+        }
+        for (String text : new String[] {"{!", "{!a", "{!-", "{-!", "{-!#|"}) {
+            goesOn(text, KEYS_OF_TEXT + "}");
+        }
+        String begin = "abcdef.012!>*=";
+        goesOn("{", begin + "#$-");
+        goesOn("{-", begin + "#$");
+        goesOn("{#a}{", begin + "#$-^/");
+        goesOn("{#a}{^}{", begin + "#$-/");
+        goesOn("{#a}{^}{-", begin + "#$/");
+        goesOn("{$a}{", begin + "#$-/");
+        goesOn("{#a}{$b}{", begin + "#$-/");
+        goesOn("{#a}{$b}{/}{", begin + "#$-^/");
+        goesOn("{$a}{#b}{-", begin + "#$^/");
+        goesOn("{#a}{#b}{#c}{#d}{", begin + "-^/");
+        goesOn("{#a}{#b}{#c}{$d}{", begin + "-/");
+        goesOn("{$a}{/}{$b}{/}{$c}{/}{$d}{/}{$e}{/}{$f}{/}{", begin + "#-");
+        goesOn("{$a}{/}{$b}{/}{$d}{/}{$e}{/}{$", "cf");
+    }
+
+    private static void eachKeyInPaths() {
+        for (String text : new String[] {"{#", "{=", "{-#", "{-="}) {
+            goesOn(text, "abcdef.012");
+        }
+        for (String text : new String[] {"{>", "{$", "{->", "{-$", "{a.", "{a.b.", "{#a.", "{#a.b.", "{=a.", "{-=f.f."}) {
+            goesOn(text, "abcdef");
+        }
+        for (String text : new String[] {"{>a", "{$f", "{*", "{#a}{^", "{#a}{/", "{#a}{-/", "{#.", "{#0", "{#2", "{#a.b.c"}) {
+            goesOn(text, "-}");
+        }
+        for (String text : new String[] {"{#a", "{#f.f", "{-#a"}) {
+            goesOn(text, ".-}");
+        }
+        for (String text : new String[] {"{a", "{=f", "{a.b", "{-f.f"}) {
+            goesOn(text, ".|-}");
+        }
+        for (String text : new String[] {"{.", "{0", "{=1", "{-2", "{a.b.c", "{=f.f.f"}) {
+            goesOn(text, "|-}");
+        }
+        for (String text : new String[] {"{a-", "{-a-", "{#a-", "{>a-", "{*-", "{.|0-", "{.|0:a-", "{#a}{/-"}) {
+            goesOn(text, "}");
+        }
+    }
+
+    private static void eachKeyInFilters() {
+        String digits = "0123456789";
+        String ofArgument = "abcdef " + digits;
+        for (String text : new String[] {"{a|", "{=.|", "{a|0|", "{a|0|1|2|", "{a|3:a|", "{a.b.c|"}) {
+            goesOn(text, digits);
+        }
+        for (String text : new String[] {"{a|0", "{a|9", "{=.|5", "{a|0|1|2", "{a|0:a|3"}) {
+            goesOn(text, ":|-}");
+        }
+        goesOn("{a|0|1|2|3", ":-}");
+        for (String text : new String[] {"{a|0:", "{=.|9:", "{a|0|1|2|3:"}) {
+            goesOn(text, ofArgument);
+        }
+        for (String text : new String[] {"{a|0:a", "{a|0: ", "{a|0:00", "{a|0:b|1|2:c"}) {
+            goesOn(text, ofArgument + "|-}");
+        }
+        goesOn("{a|0|1|2|3:b", ofArgument + "-}");
     }
 
     private static void lines() {
